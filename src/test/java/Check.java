@@ -1,0 +1,71 @@
+/** Counts the answers of one test that are not as due, and tells each. */
+final class Check {
+    private int asked = 0;
+    private int wrong = 0;
+
+    void due(String call, long got, long want) {
+        asked++;
+        if (got != want) {
+            tell(call + " answered " + got + ", due is " + want);
+        }
+    }
+
+    void due(String call, boolean got, boolean want) {
+        due(call, got ? 1L : 0L, want ? 1L : 0L);
+    }
+
+    /** For answers that are doubles by their bits. */
+    void dueDouble(String call, long got, double want) {
+        asked++;
+        if (got != Double.doubleToLongBits(want)) {
+            tell(call + " answered " + Double.longBitsToDouble(got) + ", due is " + want);
+        }
+    }
+
+    void dueText(String call, String got, String want) {
+        asked++;
+        if (!got.equals(want)) {
+            tell(call + " answered " + got + ", due is " + want);
+        }
+    }
+
+    /** Exactly this class is due: a kind of it is what the machine throws by itself. */
+    void dueThrow(String call, Class<? extends RuntimeException> want, Runnable run) {
+        asked++;
+        try {
+            run.run();
+        } catch (RuntimeException e) {
+            if (e.getClass() != want) {
+                tell(call + " threw " + e + ", due is " + want.getSimpleName());
+            }
+            return;
+        }
+        tell(call + " threw nothing, due is " + want.getSimpleName());
+    }
+
+    void noIndex(String call, Runnable run) {
+        dueThrow(call, IndexOutOfBoundsException.class, run);
+    }
+
+    void noArgument(String call, Runnable run) {
+        dueThrow(call, IllegalArgumentException.class, run);
+    }
+
+    void noState(String call, Runnable run) {
+        dueThrow(call, IllegalStateException.class, run);
+    }
+
+    void end() {
+        System.out.println(asked + " answers asked, " + wrong + " not as due");
+        if (wrong != 0 || asked == 0) {
+            System.exit(1);
+        }
+    }
+
+    private void tell(String what) {
+        wrong++;
+        if (wrong <= 40) {
+            System.out.println(what);
+        }
+    }
+}
