@@ -114,7 +114,7 @@ public final class Transitry {
     public long score(int star, int period)
             throws IndexOutOfBoundsException, IllegalArgumentException, IllegalStateException {
         folding.foldBy(period, nightsToFold(star, period));
-        return bitsOf(folding.greatestScore());
+        return bitsOf(folding.scoreOf(folding.bestFold()));
     }
 
     public int phase(int star, int period)
@@ -300,7 +300,7 @@ public final class Transitry {
         double greatest = threshold;
         for (int period = LEAST_PERIOD; period <= MOST_PERIOD; period++) {
             folding.foldBy(period, nights);
-            double reached = folding.greatestScore();
+            double reached = folding.scoreOf(folding.bestFold());
             if (reached > greatest) {
                 greatest = reached;
                 best = period;
@@ -346,7 +346,7 @@ public final class Transitry {
             exponent--;
         }
         long fraction = (long) ((rest - 1.0) * (1L << 52));
-        return sign | exponent << 52 | fraction;
+        return sign | (exponent << 52) | fraction;
     }
 
     private static final class Planet {
@@ -473,10 +473,6 @@ public final class Transitry {
 
         double scoreOf(int fold) {
             return hasHours(fold) ? (mean - meanOf(fold)) * counts[fold] : 0.0;
-        }
-
-        double greatestScore() {
-            return scoreOf(bestFold());
         }
 
         /** The lowest fold with the greatest score; even that can be below 0 by what the means are rounded. */

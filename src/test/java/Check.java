@@ -29,18 +29,24 @@ final class Check {
         }
     }
 
-    /** Exactly this class is due: a kind of it is what the machine throws by itself. */
+    /** Exactly this class is due, thrown by the program: another is what the machine throws by itself. */
     void dueThrow(String call, Class<? extends RuntimeException> want, Runnable run) {
         asked++;
         try {
             run.run();
         } catch (RuntimeException e) {
-            if (e.getClass() != want) {
-                tell(call + " threw " + e + ", due is " + want.getSimpleName());
+            if (e.getClass() != want || !isThrownByProgram(e)) {
+                tell(call + " threw " + e + ", due is " + want.getSimpleName() + " by the program");
             }
             return;
         }
         tell(call + " threw nothing, due is " + want.getSimpleName());
+    }
+
+    /** False if the machine or the library threw it, on its own. */
+    static boolean isThrownByProgram(Throwable e) {
+        StackTraceElement[] calls = e.getStackTrace();
+        return calls.length > 0 && calls[0].getClassName().startsWith("Transitry");
     }
 
     void noIndex(String call, Runnable run) {

@@ -134,7 +134,8 @@ public final class ModelTest {
             Object answer = method.invoke(asked, arguments);
             return answer instanceof Boolean ? ((Boolean) answer ? "1" : "0") : answer.toString();
         } catch (InvocationTargetException e) {
-            return "throws " + e.getCause().getClass().getName();
+            boolean isWanted = asked instanceof Model || Check.isThrownByProgram(e.getCause());
+            return (isWanted ? "throws " : "the machine throws ") + e.getCause().getClass().getName();
         } catch (IllegalAccessException e) {
             throw new IllegalStateException(e);
         }

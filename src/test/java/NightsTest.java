@@ -22,6 +22,8 @@ public final class NightsTest {
         searchThrows();
         oddEven();
         oddEvenWithoutHours();
+        oddEvenBySmallParts();
+        eachCallFoldsAnew();
         check.end();
     }
 
@@ -37,6 +39,12 @@ public final class NightsTest {
         x.planet(0, 2, 0, 1, depth);
         x.planet(0, 2, 1, 1, depth);
         return x;
+    }
+
+    /** Lets a star of light 1000 have this light in an hour, and keeps it. */
+    private static void keep(Transitry x, int hour, int light) {
+        x.blend(0, light - 1000);
+        x.observe(0, hour, hour);
     }
 
     private static void cloud() {
@@ -149,6 +157,11 @@ public final class NightsTest {
         check.dueDouble("thirty hours a fold", y.score(0, 2), (mean - 29800.0 / 30) * 30);
         check.dueDouble("another star has its own nights", y.score(1, 60), 0.0);
         check.due("folds without hours are none", y.phase(1, 60), 0);
+
+        Transitry small = withStar(1000);
+        small.planet(0, 60, 7, 1, 1);
+        small.observe(0, 0, 59);
+        check.dueDouble("a score below 1", small.score(0, 60), 59999.0 / 60 - 999.0);
 
         Transitry z = withStar(1000);
         z.observe(0, 100, 119);
@@ -356,5 +369,45 @@ public final class NightsTest {
         x.observe(1, 60, 99);
         check.due("phase", x.phase(1, 60), 39);
         check.dueDouble("no odd hours", x.oddEven(1, 60), 0.0);
+    }
+
+    private static void oddEvenBySmallParts() {
+        // Hours 0, 4, .. have one light, hours 2, 6, .. another, and two lights in turn make halves.
+        int[][] lights = {
+            {1000, 1000, 1001, 1001}, {1001, 1001, 1000, 1000}, {1000, 1001, 1000, 1000}, {1000, 1000, 1001, 1000},
+            {1000, 1000, 1002, 1002}, {1004, 1004, 1000, 1000}, {1000, 1000, 1003, 1003}, {1001, 1002, 1000, 1000},
+        };
+        double[] differences = {-1.0, 1.0, 0.5, -0.5, -2.0, 4.0, -3.0, 1.5};
+        for (int i = 0; i < lights.length; i++) {
+            Transitry x = withStar(1000);
+            for (int hour = 0; hour < 16; hour += 2) {
+                keep(x, hour, lights[i][hour % 4 + hour / 4 % 2]);
+            }
+            x.blend(0, 5000);
+            check.due("odd hours alone", x.observe(0, 0, 15), 8);
+            x.observe(0, 17, 17);
+            x.observe(0, 19, 19);
+            x.observe(0, 21, 21);
+            x.observe(0, 23, 23);
+            check.due("even hours are the darkest", x.phase(0, 2), 0);
+            check.dueDouble("a difference of " + differences[i], x.oddEven(0, 2), differences[i]);
+        }
+    }
+
+    /** What one call folded must not answer the next one. */
+    private static void eachCallFoldsAnew() {
+        Transitry x = withStar(1000);
+        x.planet(0, 14, 3, 1, 100);
+        x.planet(0, 14, 10, 1, 50);
+        x.observe(0, 100, 379);
+        x.star(1000);
+        x.observe(1, 0, 59);
+        check.due("phase of the steady star", x.phase(1, 60), 0);
+        check.dueDouble("oddEven behind it", x.oddEven(0, 7), -50.0);
+        check.due("phase behind oddEven", x.phase(0, 7), 3);
+        check.dueDouble("score of the steady star", x.score(1, 7), 0.0);
+        check.dueDouble("oddEven behind that", x.oddEven(0, 7), -50.0);
+        check.due("period behind that", x.period(0, 100), 7);
+        check.due("phase behind that", x.phase(0, 14), 3);
     }
 }

@@ -52,6 +52,12 @@ public final class StarsTest {
             check.dueDouble("light as told", x.light(i, 500), lights[i]);
         }
         check.noIndex("there is no seventh star", () -> x.light(6, 0));
+
+        Transitry powers = new Transitry();
+        for (int i = 0; i < 6; i++) {
+            powers.star(1024 << i);
+            check.dueDouble("light that is a power of two", powers.light(i, 0), 1024 << i);
+        }
     }
 
     private static void planet() {

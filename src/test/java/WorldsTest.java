@@ -46,6 +46,16 @@ public final class WorldsTest {
         check.due("its phase", x.about(0, 2), 4);
         check.due("not withdrawn", x.about(0, 3), 0);
         check.due("its period is that of the star", x.period(1, 0), 9);
+
+        // By 60, the last period that is looked at, the phase would be another one.
+        Transitry y = new Transitry();
+        y.star(1000);
+        y.planet(0, 7, 3, 1, 100);
+        y.observe(0, 100, 299);
+        check.due("phase by 60", y.phase(0, 60) != 3, true);
+        y.world(0, 0);
+        check.due("period", y.about(0, 1), 7);
+        check.due("phase by the period", y.about(0, 2), 3);
     }
 
     private static void worldThrows() {
