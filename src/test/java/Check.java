@@ -1,7 +1,27 @@
+import java.util.function.IntConsumer;
+
 /** Counts the answers of one test that are not as due, and tells each. */
 final class Check {
+    private final String heading;
     private int asked = 0;
     private int wrong = 0;
+
+    Check() {
+        this("");
+    }
+
+    /** The heading stands before each answer that is not as due. */
+    Check(String heading) {
+        this.heading = heading;
+    }
+
+    int asked() {
+        return asked;
+    }
+
+    int wrong() {
+        return wrong;
+    }
 
     void due(String call, long got, long want) {
         asked++;
@@ -61,6 +81,32 @@ final class Check {
         dueThrow(call, IllegalStateException.class, run);
     }
 
+    /** The call throws by each of these values. */
+    void noIndex(String call, int[] values, IntConsumer run) {
+        for (int value : values) {
+            noIndex(call + " " + value, () -> run.accept(value));
+        }
+    }
+
+    void noArgument(String call, int[] values, IntConsumer run) {
+        for (int value : values) {
+            noArgument(call + " " + value, () -> run.accept(value));
+        }
+    }
+
+    void noState(String call, int[] values, IntConsumer run) {
+        for (int value : values) {
+            noState(call + " " + value, () -> run.accept(value));
+        }
+    }
+
+    /** The values just beyond both ends of a range, and the ints that are farthest from it. */
+    static int[] beyond(int least, int greatest) {
+        return new int[] {
+            least - 1, greatest + 1, Integer.MIN_VALUE, Integer.MIN_VALUE + 1, Integer.MAX_VALUE - 1, Integer.MAX_VALUE,
+        };
+    }
+
     void end() {
         System.out.println(asked + " answers asked, " + wrong + " not as due");
         if (wrong != 0 || asked == 0) {
@@ -71,7 +117,7 @@ final class Check {
     private void tell(String what) {
         wrong++;
         if (wrong <= 40) {
-            System.out.println(what);
+            System.out.println(heading + what);
         }
     }
 }
